@@ -138,7 +138,10 @@ public final class VarietyCircuit {
     public int book(int turn, int hall, int week) {
         Turn booked = turnAt(turn);
         Hall place = hallAt(hall);
-        if (barTo(booked, place, week) != BAR_NOTHING || bookingCount >= MOST_BOOKINGS) {
+        if (booked == null || place == null || bookingCount >= MOST_BOOKINGS) {
+            return NONE;
+        }
+        if (barTo(booked, place, week) != BAR_NOTHING) {
             return NONE;
         }
         putOn(booked, place, week);
@@ -195,7 +198,10 @@ public final class VarietyCircuit {
 
     public int fail(int turn, int week) {
         Turn failed = turnAt(turn);
-        Hall place = failed == null || !isOpen(week) ? null : failed.hallIn(week);
+        if (failed == null || !isOpen(week)) {
+            return NO_SUCH;
+        }
+        Hall place = failed.hallIn(week);
         if (place == null) {
             return NO_SUCH;
         }
@@ -418,7 +424,10 @@ public final class VarietyCircuit {
     private boolean isBarredByOtherWeeks(Turn booked, Hall place, int week) {
         for (int w = 0; w < WEEK_COUNT; w++) {
             Hall other = booked.hallIn(w);
-            Contract theirs = other == null ? null : booked.contractIn(w, now);
+            if (other == null) {
+                continue;
+            }
+            Contract theirs = booked.contractIn(w, now);
             if (theirs != null && theirs.hasBar(other.milesTo(place), Math.abs(w - week))) {
                 return true;
             }

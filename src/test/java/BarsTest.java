@@ -114,6 +114,13 @@ public final class BarsTest {
         why(x, 0, 1, 11, 0);
         Due.sign(x, 0, 0, "bar 999 weeks 999;");
         why(x, 0, 1, 59, 5);
+        x = office();
+        x.book(0, 0, 0);
+        x.book(1, 0, 59);
+        Due.sign(x, 0, 1, "bar 999 weeks 2;");
+        Due.sign(x, 1, 0, "bar 999 weeks 2;");
+        why(x, 0, 1, 2, 5);
+        why(x, 1, 1, 57, 5);
     }
 
     private static void barredByTheContractOfAnotherWeek() {
@@ -132,6 +139,13 @@ public final class BarsTest {
         why(x, 1, 1, 11, 0);
         x.cancel(0, 10);
         why(x, 0, 1, 11, 0);
+        x.book(1, 0, 0);
+        Due.sign(x, 1, 0, "bar 999 weeks 2;");
+        Due.sign(x, 1, 1, "");
+        why(x, 1, 1, 2, 6);
+        x.book(2, 0, 59);
+        Due.sign(x, 2, 59, "bar 999 weeks 2;");
+        why(x, 2, 1, 57, 6);
     }
 
     private static void contractsAreAsKnownNow() {

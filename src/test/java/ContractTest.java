@@ -13,6 +13,7 @@ public final class ContractTest {
         sixtyContractsAtMost();
         soundTexts();
         faultsHaveTheirPlaces();
+        textsEndWhereTold();
         statementsAreCounted();
         faultIsOfTheLatestSign();
         forceChooses();
@@ -176,6 +177,19 @@ public final class ContractTest {
         Due.due("CONTRACTS behind it", x.count(3), 1);
         Due.due("force behind it", x.force(0, 0, 0), 0);
         Due.due("pay behind it", x.pay(0, 0, 0), 3);
+    }
+
+    /** What lies on the tape behind the text is no part of it. */
+    private static void textsEndWhereTold() {
+        String[] tapes = {"bars", "pay 12;", "pay 1;7", "pay 1;pay", "pay 1234", "x", "pay 1;;", "pay ;"};
+        int[] lengths = {3, 5, 6, 6, 7, 0, 6, 4};
+        int[] faults = {3, 5, -1, -1, 7, -1, -1, 4};
+        for (int i = 0; i < tapes.length; i++) {
+            VarietyCircuit x = office();
+            Due.feed(x, tapes[i]);
+            Due.due("sign of a part of '" + tapes[i] + "'", x.sign(0, 0, lengths[i]), faults[i] == -1 ? 0 : -1);
+            Due.due("fault of a part of '" + tapes[i] + "'", x.fault(), faults[i]);
+        }
     }
 
     private static void statementsAreCounted() {

@@ -46,9 +46,11 @@ public final class OrderTest {
 
     private static void noSuchBill() {
         VarietyCircuit x = office(PLAIN);
-        int[][] none = {{0, 4}, {0, 6}, {-1, 5}, {1, 5}, {0, -1}, {0, 60}, {LOW, 5}, {0, HIGH}};
+        int[][] none = {{0, 4}, {0, 6}, {-1, 5}, {1, 5}, {-1, 4}, {1, 4}, {0, -1}, {0, 60}, {LOW, 5}, {0, HIGH}};
         for (int[] b : none) {
+            Due.due("order of the bill", x.order(0, 5, 0), 0);
             Due.due("waits of no bill", x.waits(b[0], b[1]), -1);
+            Due.due("waits of the bill", x.waits(0, 5), 0);
             Due.due("order of no bill", x.order(b[0], b[1], 0), -1);
         }
         laid("the bill", x, 0, 0);
@@ -136,6 +138,7 @@ public final class OrderTest {
         laid("full first", office(PLAIN + 10, PLAIN, PLAIN), 3, 0, 1, 2);
         laid("full in the middle costs", office(PLAIN, PLAIN + 10, PLAIN), 3, 0, 2, 1);
         laid("fronts apart", office(FRONT, FRONT, PLAIN, PLAIN, PLAIN), 0, 2, 0, 3, 1, 4);
+        laid("each first one waits less", office(FRONT, PLAIN, DUMB, PLAIN + 10), 1, 2, 1, 0, 3);
         laid("fronts", office(FRONT, FRONT, PLAIN, PLAIN), 0, 0, 2, 1, 3);
     }
 
