@@ -91,6 +91,8 @@ public final class BarsTest {
         Due.sign(x, 0, 5, "");
         why(x, 0, 0, 4, 4);
         why(x, 0, 0, 5, 0);
+        Due.sign(x, 1, 0, "pay 0; place 0; apart like 0; apart turn 0; bar 0 weeks 0;");
+        why(x, 1, 0, 0, 0);
     }
 
     private static void barredByItsContract() {

@@ -136,6 +136,9 @@ public final class BookingTest {
         bill(x, 1, 4, 0, 1);
         x.cancel(0, 4);
         bill(x, 0, 4, 10, 2);
+        bill(x, 0, 4, 11, 3);
+        bill(x, 0, 4, 12, -1);
+        bill(x, 0, 4, 1, 15);
         x.weeks(6);
         bill(x, 0, 4, 0, 2);
     }

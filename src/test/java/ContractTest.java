@@ -261,7 +261,7 @@ public final class ContractTest {
         Due.due("pay without a CONTRACT", x.pay(0, 0, 0), 0);
         Due.sign(x, 0, 0, "pay 10; pay 5; place 3;");
         Due.due("pay, the last one", x.pay(0, 0, 0), 5);
-        Due.sign(x, 0, 0, "place 3;");
+        Due.sign(x, 0, 0, "place 3; never hall 4; apart like 5; apart turn 6; bar 7 weeks 8;");
         Due.due("pay, none told", x.pay(0, 0, 0), 0);
         Due.sign(x, 0, 0, "pay 999;");
         Due.due("pay", x.pay(0, 0, 0), 999);

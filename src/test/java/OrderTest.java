@@ -154,5 +154,20 @@ public final class OrderTest {
         laid("all told", x, 8, 8, 7, 6, 5, 4, 3, 2, 1, 0);
         Due.sign(x, 0, 0, "place 1;");
         laid("one place left", x, -1);
+        billsShrinkAndGrow();
+    }
+
+    /** What an earlier, longer bill left behind doesn't count. */
+    private static void billsShrinkAndGrow() {
+        VarietyCircuit x = office(10, 0, 10, 0, 3);
+        laid("five", x, 3, 0, 1, 3, 4, 2);
+        x.cancel(4, 5);
+        laid("four", x, 5, 0, 1, 3, 2);
+        x.cancel(1, 5);
+        laid("three", x, 4, 0, 3, 2);
+        x.cancel(3, 5);
+        laid("two", x, -1);
+        x.book(4, 0, 5);
+        laid("three again", x, 0, 0, 4, 2);
     }
 }
