@@ -24,8 +24,8 @@ public final class BarsTest {
     }
 
     /** Four TURNS, none alike, and four HALLS, all but the last within 150 miles. */
-    private static VarietyCircuit office() {
-        VarietyCircuit x = new VarietyCircuit();
+    private static Office office() {
+        Office x = new Office();
         for (int i = 0; i < 4; i++) {
             x.turn(5 + i, 0, false, i, 10 * i);
         }
@@ -36,12 +36,12 @@ public final class BarsTest {
         return x;
     }
 
-    private static void why(VarietyCircuit x, int turn, int hall, int week, int due) {
+    private static void why(Office x, int turn, int hall, int week, int due) {
         Due.due("why(" + turn + ", " + hall + ", " + week + ")", x.why(turn, hall, week), due);
     }
 
     private static void notAsTold() {
-        VarietyCircuit x = office();
+        Office x = office();
         why(x, 0, 0, 0, 0);
         why(x, 0, 0, 59, 0);
         for (int bad : new int[] {-1, 4, LOW, HIGH}) {
@@ -57,7 +57,7 @@ public final class BarsTest {
     }
 
     private static void bookedInThatWeek() {
-        VarietyCircuit x = office();
+        Office x = office();
         x.book(0, 0, 3);
         why(x, 0, 0, 3, 2);
         why(x, 0, 1, 3, 2);
@@ -66,7 +66,7 @@ public final class BarsTest {
     }
 
     private static void tooFar() {
-        VarietyCircuit x = office();
+        Office x = office();
         x.book(0, 0, 3);
         why(x, 0, 2, 2, 0);
         why(x, 0, 2, 4, 0);
@@ -81,24 +81,24 @@ public final class BarsTest {
     }
 
     private static void neverInThatHall() {
-        VarietyCircuit x = office();
-        Due.sign(x, 0, 2, "never hall 0; never hall 2; never hall 500;");
+        Office x = office();
+        x.signText(0, 2, "never hall 0; never hall 2; never hall 500;");
         why(x, 0, 0, 1, 0);
         why(x, 0, 0, 2, 4);
         why(x, 0, 1, 2, 0);
         why(x, 0, 2, 2, 4);
         why(x, 1, 0, 2, 0);
-        Due.sign(x, 0, 5, "");
+        x.signText(0, 5, "");
         why(x, 0, 0, 4, 4);
         why(x, 0, 0, 5, 0);
-        Due.sign(x, 1, 0, "pay 0; place 0; apart like 0; apart turn 0; bar 0 weeks 0;");
+        x.signText(1, 0, "pay 0; place 0; apart like 0; apart turn 0; bar 0 weeks 0;");
         why(x, 1, 0, 0, 0);
     }
 
     private static void barredByItsContract() {
-        VarietyCircuit x = office();
+        Office x = office();
         x.book(0, 0, 10);
-        Due.sign(x, 0, 0, "bar 100 weeks 3; bar 101 weeks 2;");
+        x.signText(0, 0, "bar 100 weeks 3; bar 101 weeks 2;");
         why(x, 0, 1, 12, 5);
         why(x, 0, 1, 8, 5);
         why(x, 0, 1, 13, 0);
@@ -112,29 +112,29 @@ public final class BarsTest {
         why(x, 0, 1, 12, 5);
         x = office();
         x.book(0, 0, 10);
-        Due.sign(x, 0, 0, "bar 0 weeks 59; bar 999 weeks 0;");
+        x.signText(0, 0, "bar 0 weeks 59; bar 999 weeks 0;");
         why(x, 0, 1, 11, 0);
-        Due.sign(x, 0, 0, "bar 999 weeks 999;");
+        x.signText(0, 0, "bar 999 weeks 999;");
         why(x, 0, 1, 59, 5);
         x = office();
         x.book(0, 0, 0);
         x.book(1, 0, 59);
-        Due.sign(x, 0, 1, "bar 999 weeks 2;");
-        Due.sign(x, 1, 0, "bar 999 weeks 2;");
+        x.signText(0, 1, "bar 999 weeks 2;");
+        x.signText(1, 0, "bar 999 weeks 2;");
         why(x, 0, 1, 2, 5);
         why(x, 1, 1, 57, 5);
     }
 
     private static void barredByTheContractOfAnotherWeek() {
-        VarietyCircuit x = office();
+        Office x = office();
         x.book(0, 0, 10);
-        Due.sign(x, 0, 10, "bar 101 weeks 2;");
+        x.signText(0, 10, "bar 101 weeks 2;");
         why(x, 0, 1, 9, 6);
         why(x, 0, 1, 8, 6);
         why(x, 0, 1, 7, 0);
         why(x, 0, 2, 9, 0);
         why(x, 0, 1, 11, 5);
-        Due.sign(x, 0, 11, "");
+        x.signText(0, 11, "");
         why(x, 0, 1, 11, 6);
         why(x, 0, 1, 12, 6);
         why(x, 0, 1, 13, 0);
@@ -142,31 +142,31 @@ public final class BarsTest {
         x.cancel(0, 10);
         why(x, 0, 1, 11, 0);
         x.book(1, 0, 0);
-        Due.sign(x, 1, 0, "bar 999 weeks 2;");
-        Due.sign(x, 1, 1, "");
+        x.signText(1, 0, "bar 999 weeks 2;");
+        x.signText(1, 1, "");
         why(x, 1, 1, 2, 6);
         x.book(2, 0, 59);
-        Due.sign(x, 2, 59, "bar 999 weeks 2;");
+        x.signText(2, 59, "bar 999 weeks 2;");
         why(x, 2, 1, 57, 6);
     }
 
     private static void contractsAreAsKnownNow() {
-        VarietyCircuit x = office();
+        Office x = office();
         x.book(0, 0, 10);
         x.weeks(2);
-        Due.sign(x, 0, 0, "never hall 1; bar 999 weeks 4; apart like 1;");
+        x.signText(0, 0, "never hall 1; bar 999 weeks 4; apart like 1;");
         why(x, 0, 1, 12, 4);
         why(x, 0, 2, 12, 5);
-        Due.sign(x, 0, 12, "");
+        x.signText(0, 12, "");
         why(x, 0, 1, 12, 6);
-        Due.sign(x, 0, 10, "");
+        x.signText(0, 10, "");
         why(x, 0, 1, 11, 0);
         x.book(1, 1, 9);
         why(x, 0, 1, 9, 4);
     }
 
     private static void alike() {
-        VarietyCircuit x = office();
+        Office x = office();
         x.turn(5, 0, false, 0, 0);
         x.book(0, 0, 0);
         why(x, 4, 0, 0, 7);
@@ -177,9 +177,9 @@ public final class BarsTest {
     }
 
     private static void apart() {
-        VarietyCircuit x = office();
+        Office x = office();
         x.turn(5, 0, false, 7, 0);
-        Due.sign(x, 0, 0, "apart like 2; apart turn 3; apart turn 0; apart like 0; apart like 99; apart turn 99;");
+        x.signText(0, 0, "apart like 2; apart turn 3; apart turn 0; apart like 0; apart like 99; apart turn 99;");
         x.book(0, 0, 0);
         why(x, 1, 0, 0, 0);
         why(x, 2, 0, 0, 8);
@@ -191,7 +191,7 @@ public final class BarsTest {
         why(x, 0, 1, 1, 8);
         why(x, 0, 2, 2, 8);
         why(x, 0, 0, 8, 0);
-        Due.sign(x, 4, 5, "apart like 3; apart turn 2;");
+        x.signText(4, 5, "apart like 3; apart turn 2;");
         x.book(4, 1, 6);
         why(x, 3, 1, 6, 8);
         why(x, 2, 1, 6, 8);
@@ -201,13 +201,13 @@ public final class BarsTest {
         // The text of a TURN's number doesn't count as a LIKE, nor the other way round.
         x = office();
         x.turn(5, 0, false, 9, 0);
-        Due.sign(x, 0, 0, "apart like 4; apart turn 9;");
+        x.signText(0, 0, "apart like 4; apart turn 9;");
         x.book(0, 0, 0);
         why(x, 4, 0, 0, 0);
     }
 
     private static void sameHallTooSoon() {
-        VarietyCircuit x = office();
+        Office x = office();
         x.book(0, 0, 20);
         why(x, 0, 0, 12, 0);
         why(x, 0, 0, 13, 9);
@@ -225,7 +225,7 @@ public final class BarsTest {
     }
 
     private static void billIsFull() {
-        VarietyCircuit x = new VarietyCircuit();
+        Office x = new Office();
         for (int i = 0; i < 10; i++) {
             x.turn(3, 0, false, i, 0);
         }
@@ -246,7 +246,7 @@ public final class BarsTest {
     }
 
     private static void tooLong() {
-        VarietyCircuit x = new VarietyCircuit();
+        Office x = new Office();
         x.turn(10, 0, false, 0, 0);
         x.turn(10, 0, false, 1, 0);
         x.turn(11, 0, false, 2, 0);
@@ -259,15 +259,15 @@ public final class BarsTest {
 
     /** Every two of them that follow one another hold at once; the first is told. */
     private static void firstOneCounts() {
-        VarietyCircuit x = office();
+        Office x = office();
         x.book(0, 0, 3);
         x.book(0, 2, 4);
-        Due.sign(x, 0, 0, "never hall 0; never hall 3; bar 999 weeks 9;");
+        x.signText(0, 0, "never hall 0; never hall 3; bar 999 weeks 9;");
         why(x, 0, 3, 3, 2);
         why(x, 0, 3, 2, 3);
         why(x, 0, 0, 1, 4);
         why(x, 0, 1, 1, 5);
-        Due.sign(x, 0, 5, "apart like 1;");
+        x.signText(0, 5, "apart like 1;");
         x.book(1, 1, 6);
         x.turn(5, 0, false, 0, 0);
         x.book(4, 1, 6);
@@ -284,7 +284,7 @@ public final class BarsTest {
     }
 
     private static void nineOnTheBillOfSameHall() {
-        VarietyCircuit x = new VarietyCircuit();
+        Office x = new Office();
         for (int i = 0; i < 10; i++) {
             x.turn(3, 0, false, i, 0);
         }

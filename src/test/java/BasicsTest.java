@@ -16,7 +16,7 @@ public final class BasicsTest {
     }
 
     private static void weeksGoOn() {
-        VarietyCircuit x = new VarietyCircuit();
+        Office x = new Office();
         for (int n : new int[] {0, -1, LOW, 60, HIGH}) {
             Due.due("weeks(" + n + ") in 0", x.weeks(n), -1);
             Due.due("NOW behind it", x.count(0), 0);
@@ -28,11 +28,11 @@ public final class BasicsTest {
         Due.due("weeks(51) in 8", x.weeks(51), 59);
         Due.due("weeks(1) in 59", x.weeks(1), -1);
         Due.due("NOW", x.count(0), 59);
-        Due.due("weeks(59) in 0", new VarietyCircuit().weeks(59), 59);
+        Due.due("weeks(59) in 0", new Office().weeks(59), 59);
     }
 
     private static void turnsAreAsTold() {
-        VarietyCircuit x = new VarietyCircuit();
+        Office x = new Office();
         int[][] wrong = {
             {2, 0, 0, 0, 0}, {21, 0, 0, 0, 0}, {LOW, 0, 0, 0, 0}, {HIGH, 0, 0, 0, 0},
             {3, -1, 0, 0, 0}, {3, 4, 0, 0, 0}, {3, 3, 1, 0, 0},
@@ -56,7 +56,7 @@ public final class BasicsTest {
     }
 
     private static void hallsAreAsTold() {
-        VarietyCircuit x = new VarietyCircuit();
+        Office x = new Office();
         int[][] wrong = {
             {-1, 1, 20}, {301, 1, 20}, {LOW, 1, 20}, {0, 0, 20}, {0, 1001, 20}, {0, HIGH, 20},
             {0, 1, 19}, {0, 1, 121}, {0, 1, LOW}
@@ -77,7 +77,7 @@ public final class BasicsTest {
     }
 
     private static void turnsTellOfThemselves() {
-        VarietyCircuit x = new VarietyCircuit();
+        Office x = new Office();
         x.turn(7, 2, true, 4, 63);
         x.turn(8, 3, false, 5, 64);
         x.hall(10, 100, 60);
@@ -109,14 +109,14 @@ public final class BasicsTest {
     }
 
     private static void countsCount() {
-        VarietyCircuit x = new VarietyCircuit();
+        Office x = new Office();
         x.weeks(4);
         for (int i = 0; i < 3; i++) {
             x.turn(5, 0, false, i, 0);
         }
         x.hall(1, 1, 20);
         x.hall(2, 1, 20);
-        Due.sign(x, 0, 0, "pay 1;");
+        x.signText(0, 0, "pay 1;");
         x.book(0, 0, 4);
         x.book(1, 0, 4);
         x.book(1, 1, 5);

@@ -18,8 +18,8 @@ public final class BookingTest {
         Due.end();
     }
 
-    private static VarietyCircuit office() {
-        VarietyCircuit x = new VarietyCircuit();
+    private static Office office() {
+        Office x = new Office();
         x.turn(5, 0, false, 0, 50);
         x.turn(6, 1, false, 1, 13);
         x.turn(7, 1, true, 2, 20);
@@ -31,7 +31,7 @@ public final class BookingTest {
     }
 
     private static void bookings() {
-        VarietyCircuit x = office();
+        Office x = office();
         Due.due("book", x.book(0, 0, 0), 1);
         Due.due("book", x.book(1, 0, 0), 2);
         Due.due("book on another bill", x.book(2, 1, 0), 1);
@@ -51,7 +51,7 @@ public final class BookingTest {
 
     /** Forty TURNS of three minutes go from hall to hall in groups of ten, so that all may be booked each WEEK. */
     private static void fourHundredAtMost() {
-        VarietyCircuit x = new VarietyCircuit();
+        Office x = new Office();
         for (int i = 0; i < 40; i++) {
             x.turn(3, 0, false, i % 10, 0);
         }
@@ -76,35 +76,35 @@ public final class BookingTest {
         int standIn = x.fail(0, 0);
         Due.due("a STAND-IN with 400 there", x.where(standIn, 0), hall);
         Due.due("bookings", x.count(4), 400);
-        Due.due("cancel", x.cancel(standIn, 0), true);
+        Due.due("cancel", x.cancel(standIn, 0), 1);
         Due.due("fill with 399 there", x.fill(0, 40, 9), 1);
         Due.due("where", x.where(0, 40), 0);
         Due.due("bookings", x.count(4), 400);
     }
 
     private static void cancelling() {
-        VarietyCircuit x = office();
+        Office x = office();
         x.book(0, 0, 0);
         x.book(0, 1, 3);
-        Due.due("cancel", x.cancel(0, 3), true);
-        Due.due("cancel again", x.cancel(0, 3), false);
+        Due.due("cancel", x.cancel(0, 3), 1);
+        Due.due("cancel again", x.cancel(0, 3), 0);
         Due.due("where", x.where(0, 3), -1);
         Due.due("bookings", x.count(4), 1);
         Due.due("FAILED", x.turnOf(0, 6), 0);
         Due.due("book again", x.book(0, 1, 3), 1);
         int[][] wrong = {{1, 0}, {-1, 0}, {5, 0}, {0, -1}, {0, 60}, {0, 1}, {HIGH, 0}, {0, HIGH}, {0, LOW}};
         for (int[] c : wrong) {
-            Due.due("cancel of none such", x.cancel(c[0], c[1]), false);
+            Due.due("cancel of none such", x.cancel(c[0], c[1]), 0);
         }
         x.weeks(3);
-        Due.due("cancel ahead of NOW", x.cancel(0, 0), false);
+        Due.due("cancel ahead of NOW", x.cancel(0, 0), 0);
         Due.due("where", x.where(0, 0), 0);
-        Due.due("cancel NOW", x.cancel(0, 3), true);
+        Due.due("cancel NOW", x.cancel(0, 3), 1);
         Due.due("bookings", x.count(4), 1);
     }
 
     private static void whereabouts() {
-        VarietyCircuit x = office();
+        Office x = office();
         x.book(0, 1, 2);
         Due.due("where", x.where(0, 2), 1);
         int[][] none = {{0, 1}, {0, 3}, {1, 2}, {-1, 2}, {5, 2}, {0, -1}, {0, 60}, {LOW, 2}, {0, HIGH}};
@@ -115,12 +115,12 @@ public final class BookingTest {
         Due.due("where it was", x.where(0, 2), 1);
     }
 
-    private static void bill(VarietyCircuit x, int hall, int week, int what, int due) {
+    private static void bill(Office x, int hall, int week, int what, int due) {
         Due.due("bill(" + hall + ", " + week + ", " + what + ")", x.bill(hall, week, what), due);
     }
 
     private static void billsTell() {
-        VarietyCircuit x = office();
+        Office x = office();
         x.book(3, 0, 4);
         x.book(0, 0, 4);
         x.book(2, 0, 4);
@@ -144,7 +144,7 @@ public final class BookingTest {
     }
 
     private static void takingsAreCut() {
-        VarietyCircuit x = office();
+        Office x = office();
         x.book(1, 0, 0);
         bill(x, 0, 0, 2, 529);
         x.book(2, 0, 0);
@@ -159,23 +159,23 @@ public final class BookingTest {
     }
 
     private static void payOfABill() {
-        VarietyCircuit x = office();
+        Office x = office();
         x.book(0, 0, 0);
         x.book(1, 0, 0);
         x.book(2, 0, 0);
-        Due.sign(x, 0, 0, "pay 100;");
-        Due.sign(x, 1, 0, "pay 20; pay 30;");
-        Due.sign(x, 2, 1, "pay 500;");
-        Due.sign(x, 3, 0, "pay 700;");
+        x.signText(0, 0, "pay 100;");
+        x.signText(1, 0, "pay 20; pay 30;");
+        x.signText(2, 1, "pay 500;");
+        x.signText(3, 0, "pay 700;");
         bill(x, 0, 0, 3, 130);
         x.weeks(2);
         bill(x, 0, 0, 3, 130);
-        Due.sign(x, 2, 0, "pay 999;");
+        x.signText(2, 0, "pay 999;");
         bill(x, 0, 0, 3, 1129);
     }
 
     private static void emptyBills() {
-        VarietyCircuit x = office();
+        Office x = office();
         int[] due = {0, 0, 399, 0, 0, -1, -1, -1, -1, -1, -1};
         for (int what = 0; what < due.length; what++) {
             bill(x, 0, 59, what, due[what]);

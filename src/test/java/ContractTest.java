@@ -23,8 +23,8 @@ public final class ContractTest {
         Due.end();
     }
 
-    private static VarietyCircuit office() {
-        VarietyCircuit x = new VarietyCircuit();
+    private static Office office() {
+        Office x = new Office();
         x.turn(5, 0, false, 0, 0);
         x.turn(5, 0, false, 1, 0);
         x.hall(0, 100, 60);
@@ -32,7 +32,7 @@ public final class ContractTest {
     }
 
     private static void tapeTakesSixHundredBytes() {
-        VarietyCircuit x = office();
+        Office x = office();
         for (int i = 1; i <= 30; i++) {
             Due.due("feed " + i, x.feed(LOW, HIGH, -1, 0, i), 20 * i);
         }
@@ -45,7 +45,7 @@ public final class ContractTest {
     }
 
     private static void bytesComeHighestFirst() {
-        VarietyCircuit x = office();
+        Office x = office();
         x.book(0, 0, 0);
         // "pay 12;" goes over two numbers, "pay999;" over two feeds.
         x.feed(0x70617920, 0x31323b20, 0x20202020, 0x20200a20, 0x20202020);
@@ -58,7 +58,7 @@ public final class ContractTest {
     }
 
     private static void signRefuses() {
-        VarietyCircuit x = office();
+        Office x = office();
         x.feed(0x20202020, 0x20202020, 0x20202020, 0x20202020, 0x20202020);
         int[][] wrong = {
             {-1, 0, 0}, {2, 0, 0}, {HIGH, 0, 0}, {LOW, 0, 0}, {0, -1, 0}, {0, 60, 0}, {0, HIGH, 0},
@@ -73,17 +73,17 @@ public final class ContractTest {
         Due.due("bytes behind it", x.count(5), 0);
         Due.due("sign of more than there are", x.sign(1, 59, 1), -2);
         Due.due("sign of nothing", x.sign(1, 59, 0), 1);
-        Due.feed(x, "pay 1; pay 2;");
+        x.feedText("pay 1; pay 2;");
         Due.due("sign of a part", x.sign(0, 0, 6), 2);
         Due.due("the rest is gone", x.count(5), 0);
     }
 
     private static void sixtyContractsAtMost() {
-        VarietyCircuit x = office();
+        Office x = office();
         for (int i = 0; i < 60; i++) {
             Due.due("sign " + i, x.sign(i % 2, i, 0), i);
         }
-        Due.feed(x, "pay 1;");
+        x.feedText("pay 1;");
         Due.due("the 61st", x.sign(0, 0, 6), -3);
         Due.due("bytes behind it", x.count(5), 20);
         Due.due("CONTRACTS", x.count(3), 60);
@@ -100,8 +100,8 @@ public final class ContractTest {
             "place 9;", "place0;", "pay1;pay2;place3;never hall4;apart like5;apart turn6;bar7weeks8;",
         };
         for (String text : sound) {
-            VarietyCircuit x = office();
-            Due.due("sign of '" + text + "'", Due.sign(x, 0, 0, text), 0);
+            Office x = office();
+            Due.due("sign of '" + text + "'", x.signText(0, 0, text), 0);
             Due.due("fault of '" + text + "'", x.fault(), -1);
         }
     }
@@ -168,10 +168,10 @@ public final class ContractTest {
     }
 
     private static void faultAt(String text, int place) {
-        VarietyCircuit x = office();
-        Due.sign(x, 0, 0, "pay 3;");
+        Office x = office();
+        x.signText(0, 0, "pay 3;");
         x.book(0, 0, 0);
-        Due.due("sign of '" + text + "'", Due.sign(x, 0, 0, text), -1);
+        Due.due("sign of '" + text + "'", x.signText(0, 0, text), -1);
         Due.due("fault of '" + text + "'", x.fault(), place);
         Due.due("bytes behind it", x.count(5), 0);
         Due.due("CONTRACTS behind it", x.count(3), 1);
@@ -185,8 +185,8 @@ public final class ContractTest {
         int[] lengths = {3, 5, 6, 6, 7, 0, 6, 4};
         int[] faults = {3, 5, -1, -1, 7, -1, -1, 4};
         for (int i = 0; i < tapes.length; i++) {
-            VarietyCircuit x = office();
-            Due.feed(x, tapes[i]);
+            Office x = office();
+            x.feedText(tapes[i]);
             Due.due("sign of a part of '" + tapes[i] + "'", x.sign(0, 0, lengths[i]), faults[i] == -1 ? 0 : -1);
             Due.due("fault of a part of '" + tapes[i] + "'", x.fault(), faults[i]);
         }
@@ -197,11 +197,11 @@ public final class ContractTest {
         for (int i = 0; i < 12; i++) {
             twelve += "pay " + i + ";\n";
         }
-        VarietyCircuit x = office();
+        Office x = office();
         x.book(0, 0, 0);
-        Due.due("twelve statements", Due.sign(x, 0, 0, twelve), 0);
+        Due.due("twelve statements", x.signText(0, 0, twelve), 0);
         Due.due("pay", x.pay(0, 0, 0), 11);
-        Due.due("twelve and blanks", Due.sign(x, 0, 0, twelve + "  \n"), 1);
+        Due.due("twelve and blanks", x.signText(0, 0, twelve + "  \n"), 1);
         faultAt(twelve + " pay 12;", twelve.length() + 1);
         faultAt(twelve + "bar 1000", twelve.length());
         faultAt(twelve + "x", twelve.length());
@@ -210,20 +210,20 @@ public final class ContractTest {
     }
 
     private static void faultIsOfTheLatestSign() {
-        VarietyCircuit x = office();
+        Office x = office();
         Due.due("fault at first", x.fault(), -1);
-        Due.sign(x, 0, 0, "pay x;");
+        x.signText(0, 0, "pay x;");
         Due.due("fault", x.fault(), 4);
         Due.due("sign refused", x.sign(5, 0, 0), -2);
         Due.due("fault behind a refused one", x.fault(), 4);
         Due.due("sign", x.sign(0, 0, 0), 0);
         Due.due("fault behind a sound one", x.fault(), -1);
-        Due.sign(x, 0, 0, "pay");
+        x.signText(0, 0, "pay");
         Due.due("fault", x.fault(), 3);
     }
 
     private static void forceChooses() {
-        VarietyCircuit x = office();
+        Office x = office();
         x.sign(0, 10, 0);
         x.sign(1, 0, 0);
         x.weeks(5);
@@ -243,7 +243,7 @@ public final class ContractTest {
     }
 
     private static void forceRefuses() {
-        VarietyCircuit x = office();
+        Office x = office();
         x.sign(0, 0, 0);
         Due.due("force", x.force(0, 59, 59), 0);
         int[][] wrong = {
@@ -256,14 +256,14 @@ public final class ContractTest {
     }
 
     private static void payIsOfTheLastStatement() {
-        VarietyCircuit x = office();
+        Office x = office();
         x.book(0, 0, 0);
         Due.due("pay without a CONTRACT", x.pay(0, 0, 0), 0);
-        Due.sign(x, 0, 0, "pay 10; pay 5; place 3;");
+        x.signText(0, 0, "pay 10; pay 5; place 3;");
         Due.due("pay, the last one", x.pay(0, 0, 0), 5);
-        Due.sign(x, 0, 0, "place 3; never hall 4; apart like 5; apart turn 6; bar 7 weeks 8;");
+        x.signText(0, 0, "place 3; never hall 4; apart like 5; apart turn 6; bar 7 weeks 8;");
         Due.due("pay, none told", x.pay(0, 0, 0), 0);
-        Due.sign(x, 0, 0, "pay 999;");
+        x.signText(0, 0, "pay 999;");
         Due.due("pay", x.pay(0, 0, 0), 999);
         Due.due("pay of one not booked", x.pay(0, 1, 0), 0);
         x.cancel(0, 0);
@@ -271,13 +271,13 @@ public final class ContractTest {
     }
 
     private static void payIsAsKnown() {
-        VarietyCircuit x = office();
+        Office x = office();
         x.book(0, 0, 0);
         x.book(0, 0, 8);
-        Due.sign(x, 0, 0, "pay 1;");
+        x.signText(0, 0, "pay 1;");
         x.weeks(3);
-        Due.sign(x, 0, 0, "pay 2;");
-        Due.sign(x, 0, 8, "pay 3;");
+        x.signText(0, 0, "pay 2;");
+        x.signText(0, 8, "pay 3;");
         int[][] due = {{0, 2, 1}, {0, 3, 2}, {0, 59, 2}, {8, 2, 1}, {8, 3, 3}, {7, 3, 0}};
         for (int[] d : due) {
             Due.due("pay(0, " + d[0] + ", " + d[1] + ")", x.pay(0, d[0], d[1]), d[2]);

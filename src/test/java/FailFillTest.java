@@ -18,8 +18,8 @@ public final class FailFillTest {
         Due.end();
     }
 
-    private static VarietyCircuit office(int... draws) {
-        VarietyCircuit x = new VarietyCircuit();
+    private static Office office(int... draws) {
+        Office x = new Office();
         for (int i = 0; i < draws.length; i++) {
             x.turn(10, 0, false, i % 10, draws[i]);
         }
@@ -29,7 +29,7 @@ public final class FailFillTest {
     }
 
     private static void failRefuses() {
-        VarietyCircuit x = office(1, 2, 3);
+        Office x = office(1, 2, 3);
         x.book(0, 0, 1);
         x.book(0, 1, 3);
         int[][] wrong = {{1, 1}, {0, 0}, {0, 2}, {-1, 1}, {3, 1}, {0, -1}, {0, 60}, {HIGH, LOW}, {LOW, HIGH}};
@@ -47,7 +47,7 @@ public final class FailFillTest {
     }
 
     private static void standInHasTheGreatestDraw() {
-        VarietyCircuit x = office(99, 5, 7, 7, 6);
+        Office x = office(99, 5, 7, 7, 6);
         x.book(0, 0, 2);
         Due.due("fail", x.fail(0, 2), 2);
         Due.due("where it was", x.where(0, 2), -1);
@@ -63,8 +63,8 @@ public final class FailFillTest {
     }
 
     private static void standInIsNotBarred() {
-        VarietyCircuit x = office(10, 60, 50, 40, 30);
-        Due.sign(x, 1, 0, "never hall 0;");
+        Office x = office(10, 60, 50, 40, 30);
+        x.signText(1, 0, "never hall 0;");
         x.book(2, 0, 9);
         x.book(0, 0, 2);
         Due.due("fail", x.fail(0, 2), 3);
@@ -72,7 +72,7 @@ public final class FailFillTest {
     }
 
     private static void standInMayTakeItsPlace() {
-        VarietyCircuit x = office(10, 20, 30, 40, 50, 60, 70, 80, 90, 5, 99, 98);
+        Office x = office(10, 20, 30, 40, 50, 60, 70, 80, 90, 5, 99, 98);
         x.book(0, 0, 0);
         x.book(1, 0, 0);
         x.book(2, 0, 0);
@@ -80,13 +80,13 @@ public final class FailFillTest {
         Due.due("alike with the one that FAILS, and no minutes left but its own", x.fail(0, 0), 10);
         Due.due("bill", x.bill(0, 0, 1), 30);
         x.book(4, 1, 0);
-        Due.sign(x, 4, 0, "apart turn 8; apart turn 11;");
+        x.signText(4, 0, "apart turn 8; apart turn 11;");
         Due.due("why, apart", x.why(8, 1, 0), 8);
         Due.due("apart from the one that FAILS", x.fail(4, 0), 11);
     }
 
     private static void nobodyStandsIn() {
-        VarietyCircuit x = office(10);
+        Office x = office(10);
         x.book(0, 0, 2);
         Due.due("fail", x.fail(0, 2), -1);
         Due.due("where", x.where(0, 2), -1);
@@ -98,7 +98,7 @@ public final class FailFillTest {
     }
 
     private static void fillRefuses() {
-        VarietyCircuit x = office(1, 2, 3);
+        Office x = office(1, 2, 3);
         x.weeks(2);
         int[][] wrong = {
             {-1, 2, 1}, {2, 2, 1}, {HIGH, 2, 1}, {0, 1, 1}, {0, -1, 1}, {0, 60, 1}, {0, LOW, 1}, {0, HIGH, 1},
@@ -114,7 +114,7 @@ public final class FailFillTest {
     }
 
     private static void fillTakesTheGreatestDraw() {
-        VarietyCircuit x = office(10, 50, 30, 50, 20);
+        Office x = office(10, 50, 30, 50, 20);
         Due.due("fill up to 1", x.fill(1, 0, 1), 1);
         Due.due("the least of the greatest", x.bill(1, 0, 10), 1);
         Due.due("fill up to 3", x.fill(1, 0, 3), 3);
@@ -127,9 +127,9 @@ public final class FailFillTest {
     }
 
     private static void fillKeepsToTheBars() {
-        VarietyCircuit x = office(10, 20, 30, 40, 50, 60, 70, 80, 90, 5, 99, 98);
-        Due.sign(x, 10, 0, "apart turn 11;");
-        Due.sign(x, 7, 0, "apart like 8;");
+        Office x = office(10, 20, 30, 40, 50, 60, 70, 80, 90, 5, 99, 98);
+        x.signText(10, 0, "apart turn 11;");
+        x.signText(7, 0, "apart like 8;");
         Due.due("fill up to its MINUTES", x.fill(0, 0, 9), 3);
         Due.due("the greatest", x.where(10, 0), 0);
         Due.due("apart from it", x.where(11, 0), -1);

@@ -24,8 +24,8 @@ public final class OrderTest {
     }
 
     /** A bill of TURNS of these kinds, FULL where 10 is added, in HALL 0 and WEEK 5. */
-    private static VarietyCircuit office(int... kinds) {
-        VarietyCircuit x = new VarietyCircuit();
+    private static Office office(int... kinds) {
+        Office x = new Office();
         x.hall(0, 100, 120);
         for (int i = 0; i < kinds.length; i++) {
             x.turn(5, kinds[i] % 10, kinds[i] >= 10, i, 0);
@@ -34,7 +34,7 @@ public final class OrderTest {
         return x;
     }
 
-    private static void laid(String what, VarietyCircuit x, int waits, int... order) {
+    private static void laid(String what, Office x, int waits, int... order) {
         Due.due(what + ": waits", x.waits(0, 5), waits);
         for (int k = 0; k < order.length; k++) {
             Due.due(what + ": order " + k, x.order(0, 5, k), order[k]);
@@ -45,7 +45,7 @@ public final class OrderTest {
     }
 
     private static void noSuchBill() {
-        VarietyCircuit x = office(PLAIN);
+        Office x = office(PLAIN);
         int[][] none = {{0, 4}, {0, 6}, {-1, 5}, {1, 5}, {-1, 4}, {1, 4}, {0, -1}, {0, 60}, {LOW, 5}, {0, HIGH}};
         for (int[] b : none) {
             Due.due("order of the bill", x.order(0, 5, 0), 0);
@@ -92,43 +92,43 @@ public final class OrderTest {
     }
 
     private static void placesTold() {
-        VarietyCircuit x = office(PLAIN, PLAIN, PLAIN);
-        Due.sign(x, 0, 0, "place 3;");
+        Office x = office(PLAIN, PLAIN, PLAIN);
+        x.signText(0, 0, "place 3;");
         laid("place 3 of 3", x, 2, 1, 2, 0);
-        Due.sign(x, 0, 0, "place 4;");
+        x.signText(0, 0, "place 4;");
         laid("place 4 of 3", x, 2, 0, 1, 2);
-        Due.sign(x, 0, 0, "place 999;");
+        x.signText(0, 0, "place 999;");
         laid("place 999", x, 2, 0, 1, 2);
-        Due.sign(x, 0, 0, "place 3; place 2;");
+        x.signText(0, 0, "place 3; place 2;");
         laid("the last one told", x, 2, 1, 0, 2);
-        Due.sign(x, 0, 0, "place 3; place 0;");
+        x.signText(0, 0, "place 3; place 0;");
         laid("place 0", x, 2, 0, 1, 2);
-        Due.sign(x, 0, 0, "place 3; place 4;");
+        x.signText(0, 0, "place 3; place 4;");
         laid("the last one told isn't there", x, 2, 0, 1, 2);
-        Due.sign(x, 0, 0, "place 1;");
-        Due.sign(x, 2, 0, "place 1;");
+        x.signText(0, 0, "place 1;");
+        x.signText(2, 0, "place 1;");
         laid("two at one place", x, -1);
         x = office(PLAIN, PLAIN, DUMB);
-        Due.sign(x, 2, 0, "place 2;");
+        x.signText(2, 0, "place 2;");
         laid("a DUMB one in the middle", x, -1);
-        Due.sign(x, 2, 0, "place 1;");
+        x.signText(2, 0, "place 1;");
         laid("a DUMB one first", x, 2, 2, 0, 1);
         x = office(PLAIN + 10, PLAIN + 10, PLAIN);
-        Due.sign(x, 2, 0, "place 1;");
+        x.signText(2, 0, "place 1;");
         laid("FULL ones forced beside", x, -1);
         x = office(FRONT, PLAIN, PLAIN + 10);
-        Due.sign(x, 0, 0, "place 1;");
+        x.signText(0, 0, "place 1;");
         laid("a FRONT forced first", x, 2, 0, 1, 2);
     }
 
     private static void placesAsKnownNow() {
-        VarietyCircuit x = office(PLAIN, PLAIN);
-        Due.sign(x, 1, 6, "place 1;");
+        Office x = office(PLAIN, PLAIN);
+        x.signText(1, 6, "place 1;");
         laid("not in force yet", x, 1, 0, 1);
         x.weeks(9);
-        Due.sign(x, 1, 4, "place 1;");
+        x.signText(1, 4, "place 1;");
         laid("known later on", x, 1, 1, 0);
-        Due.sign(x, 1, 5, "");
+        x.signText(1, 5, "");
         laid("in force instead", x, 1, 0, 1);
     }
 
@@ -147,19 +147,19 @@ public final class OrderTest {
         laid("five full", office(10, 10, 10, 10, 10, 0, 0, 0, 0), 16, 0, 5, 1, 6, 2, 7, 3, 8, 4);
         laid("six full", office(10, 10, 10, 10, 10, 10, 0, 0, 0), -1);
         laid("four fronts", office(3, 3, 3, 3, 10, 10, 10, 10, 10), 0, 4, 0, 5, 1, 6, 2, 7, 3, 8);
-        VarietyCircuit x = office(0, 0, 0, 0, 0, 0, 0, 0, 0);
+        Office x = office(0, 0, 0, 0, 0, 0, 0, 0, 0);
         for (int i = 0; i < 9; i++) {
-            Due.sign(x, i, 0, "place " + (9 - i) + ";");
+            x.signText(i, 0, "place " + (9 - i) + ";");
         }
         laid("all told", x, 8, 8, 7, 6, 5, 4, 3, 2, 1, 0);
-        Due.sign(x, 0, 0, "place 1;");
+        x.signText(0, 0, "place 1;");
         laid("one place left", x, -1);
         billsShrinkAndGrow();
     }
 
     /** What an earlier, longer bill left behind doesn't count. */
     private static void billsShrinkAndGrow() {
-        VarietyCircuit x = office(10, 0, 10, 0, 3);
+        Office x = office(10, 0, 10, 0, 3);
         laid("five", x, 3, 0, 1, 3, 4, 2);
         x.cancel(4, 5);
         laid("four", x, 5, 0, 1, 3, 2);
