@@ -8,7 +8,8 @@ import java.util.TreeMap;
 /** The document's words: which of them the tests have named, and which are still without a test. */
 final class Document {
     private static final Path FILE = Path.of("../shared/DOC.md");
-    /** The section 'Terms' is kept as that of promise 0. */
+    /** The sections 'What it is' and 'Terms' are kept as if they were promises, too. */
+    private static final int WHAT_IT_IS = -1;
     private static final int TERMS = 0;
 
     private static final class Section {
@@ -53,7 +54,10 @@ final class Document {
         int line = part.indexOf('\n');
         String heading = part.substring(0, Math.max(0, line));
         String words = part.substring(line + 1).replaceAll("(?m)^```.*$", " ").replaceAll("\\s+", " ").trim();
-        if (heading.equals("Terms")) {
+        if (heading.equals("What it is")) {
+            // Its first paragraph sums up what the others promise.
+            sections.put(WHAT_IT_IS, new Section(words.replaceFirst("^.*==== 1\\. ", "")));
+        } else if (heading.equals("Terms")) {
             sections.put(TERMS, new Section(words));
         } else if (heading.startsWith("Promise ")) {
             int promise = Integer.parseInt(heading.substring(8, heading.indexOf(':')));
@@ -62,17 +66,19 @@ final class Document {
         }
     }
 
-    /** Whether the promise's own section or the Terms have these words; they count as named then. */
+    /** Whether the promise's own section, or one for all, has these words; they count as named then. */
     boolean name(int promise, String quote) {
-        Section own = sections.get(promise);
-        boolean inOwn = own != null && own.name(quote);
-        return sections.get(TERMS).name(quote) || inOwn;
+        boolean found = false;
+        for (int key : new int[] {promise, TERMS, WHAT_IT_IS}) {
+            Section section = sections.get(key);
+            found |= section != null && section.name(quote);
+        }
+        return found;
     }
 
     void checkThatAllIsNamed() {
-        Due.due("sections of the document", sections.size(), 21);
-        sections.forEach((promise, section) ->
-                Due.due((promise == TERMS ? "Terms" : "promise " + promise) + ": no test names '"
-                        + section.unnamed() + "': so it", section.unnamed().isEmpty(), true));
+        Due.due("sections of the document", sections.size(), 22);
+        sections.forEach((key, section) -> Due.due("section " + key + ": all but '" + section.unnamed() + "' is named",
+                section.unnamed().isEmpty(), true));
     }
 }

@@ -340,7 +340,8 @@ final class EdgesOfBars {
     }
 
     private static void apartTexts() {
-        Edge.sentence(9, "\"apart like l\", \"apart turn t\": a bill with one of LIKE l, with TURN t (other than itself).");
+        Edge.sentence(9, "\"apart like l\", \"apart turn t\": "
+                + "a bill with one of LIKE l, with TURN t (other than itself).");
         Office x = new Office();
         for (int like : new int[] {3, 2, 1, 0, 3, 9}) {
             x.turn(5, 0, false, like, 0);
@@ -385,9 +386,25 @@ final class EdgesOfBars {
         why(x, 3, 0, 20, 0);
         x.book(0, 0, 2);
         why(x, 2, 0, 2, 0);
+        // In force in that WEEK: from it on, not from the one behind it.
+        x = office();
+        x.book(0, 0, 20);
+        x.signText(0, 21, "apart turn 1; apart like 2;");
+        why(x, 1, 0, 20, 0);
+        why(x, 2, 0, 20, 0);
+        x.signText(0, 20, "apart turn 1; apart like 2;");
+        why(x, 1, 0, 20, 8);
+        why(x, 2, 0, 20, 8);
+        // As known NOW: signed since.
+        x.weeks(3);
+        x.signText(0, 20, "apart like 4;");
+        why(x, 1, 0, 20, 0);
+        why(x, 4, 0, 20, 8);
         // By one of several on the bill, be it the last of them.
         x.book(3, 0, 20);
         x.signText(3, 0, "apart turn 4;");
+        why(x, 4, 0, 20, 8);
+        x.signText(0, 20, "");
         why(x, 4, 0, 20, 8);
         x.signText(3, 0, "");
         why(x, 4, 0, 20, 0);

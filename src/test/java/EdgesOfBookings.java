@@ -163,7 +163,8 @@ final class EdgesOfBookings {
     }
 
     private static void billsTell() {
-        Edge.sentence(13, "Of a bill: TURNS (what 0), MINUTES (1), TAKINGS (2), pay of all (3: as known NOW), TOPS (4);");
+        Edge.sentence(13, "Of a bill: TURNS (what 0), MINUTES (1), TAKINGS (2), "
+                + "pay of all (3: as known NOW), TOPS (4);");
         int[] gone = {3, 23, 256, 51, 1};
         int[] last = {2, 18, 770, 61, 1};
         int[] without = {0, 0, 133, 0, 0};
@@ -180,6 +181,10 @@ final class EdgesOfBookings {
         Edge.due("pay of all, with another signed NOW", x.bill(2, 59, 3), 977);
         x.cancel(1, 59);
         Edge.due("TOPS, one cancelled", x.bill(2, 59, 4), 0);
+        x.signText(1, 2, "pay 600;");
+        Edge.due("pay of all of a bill gone by, with one signed NOW", x.bill(0, 2, 3), 640);
+        x.signText(0, 3, "pay 700;");
+        Edge.due("pay of all of a bill gone by, not in force in its WEEK", x.bill(0, 2, 3), 640);
     }
 
     private static void billsNumbered() {

@@ -11,6 +11,7 @@ final class EdgesOfLists {
 
     static void all() {
         newObject();
+        lastCalls();
         weeksGoOn();
         weeksRefused();
         turnsAsTold();
@@ -51,6 +52,26 @@ final class EdgesOfLists {
 
         Edge.sentence(1, "The constants: `NONE = -1`: There is none.");
         Edge.due("NONE", VarietyCircuit.NONE, -1);
+    }
+
+    private static Office withOneCallLeft() {
+        Office x = BUSY.office();
+        while (x.callsLeft() > 1) {
+            // Such a call takes the longest, and the most that is kept for all calls.
+            x.order(0, 2, 0);
+        }
+        return x;
+    }
+
+    private static void lastCalls() {
+        Edge.sentence(1, "An object is used for at most 512 calls after it has been made; "
+                + "what later calls answer is free.");
+        Edge.due("count, the 512th", withOneCallLeft().count(4), 11);
+        Edge.due("order, the 512th", withOneCallLeft().order(0, 2, 2), 2);
+        Edge.due("book, the 512th", withOneCallLeft().book(3, 0, 5), 1);
+        Edge.due("sign, the 512th", withOneCallLeft().sign(0, 0, 7), 4);
+        Edge.due("fail, the 512th", withOneCallLeft().fail(0, 5), 5);
+        Edge.due("fill, the 512th", withOneCallLeft().fill(2, 59, 9), 4);
     }
 
     private static void weeksGoOn() {
@@ -271,7 +292,8 @@ final class EdgesOfLists {
     }
 
     private static void turnsTell() {
-        Edge.sentence(19, "Of a TURN: 0 MINUTES, 1 KIND, 2 FULL (1), 3 LIKE, 4 DRAW, 5 bookings, 6 how often it FAILED.");
+        Edge.sentence(19, "Of a TURN: 0 MINUTES, 1 KIND, 2 FULL (1), 3 LIKE, "
+                + "4 DRAW, 5 bookings, 6 how often it FAILED.");
         int[] third = {7, 2, 1, 3, 20, 0, 1};
         int[] first = {10, 0, 0, 0, 30, 3, 0};
         for (int i = 0; i <= 6; i++) {

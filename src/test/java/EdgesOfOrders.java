@@ -47,7 +47,8 @@ final class EdgesOfOrders {
     }
 
     private static void fullOnes() {
-        Edge.sentence(14, "==== 3. An ORDER of a bill (its TURNS, places 1 on): two FULL ones never beside one another;");
+        Edge.sentence(14, "==== 3. An ORDER of a bill (its TURNS, places 1 on): "
+                + "two FULL ones never beside one another;");
         laid("one FULL", office(PLAIN + FULL), 0, 0);
         laid("two FULL", office(PLAIN + FULL, TOP + FULL), -1);
         laid("two FULL, one more", office(PLAIN + FULL, TOP + FULL, PLAIN), 4, 0, 2, 1);
@@ -76,7 +77,8 @@ final class EdgesOfOrders {
     }
 
     private static void placesTold() {
-        Edge.sentence(14, "each whose CONTRACT (in force in that WEEK as known NOW) tells a place that there is on this bill at it.");
+        Edge.sentence(14, "each whose CONTRACT (in force in that WEEK as known NOW) "
+                + "tells a place that there is on this bill at it.");
         for (int place = 1; place <= 4; place++) {
             Office x = office(PLAIN, PLAIN, PLAIN);
             x.signText(0, 0, "place " + place + ";");
@@ -110,8 +112,8 @@ final class EdgesOfOrders {
 
     private static void placesInForce() {
         Edge.sentence(14, "\"place p\": at the p-th place of its bill (the last such statement; 0: none).");
-        String[] texts = {"place 2; place 3;", "place 3; place 2;", "place 3; place 0;", "place 0; place 3;", "place 3; place 4;",
-            "place 0;", "place 000;", "place 003;", "pay 3;", "place 3; pay 1; bar 2 weeks 1;"};
+        String[] texts = {"place 2; place 3;", "place 3; place 2;", "place 3; place 0;", "place 0; place 3;",
+            "place 3; place 4;", "place 0;", "place 000;", "place 003;", "pay 3;", "place 3; pay 1; bar 2 weeks 1;"};
         int[] last = {0, 2, 2, 0, 2, 2, 2, 0, 2, 0};
         for (int i = 0; i < texts.length; i++) {
             Office x = office(PLAIN, PLAIN, PLAIN);

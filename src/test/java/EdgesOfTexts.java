@@ -303,8 +303,8 @@ final class EdgesOfTexts {
     private static void cutAndSpoilt(String... tokens) {
         String ahead = "";
         for (int i = 0; i < tokens.length; i++) {
-            String[] others = {"bar", "weeks", "apart", "like", "turn", "never", "hall", "pay", "place", ";", "5", "1000",
-                "?", "x", Character.isLetter(tokens[i].charAt(0)) ? tokens[i] + "x" : "xx"};
+            String[] others = {"bar", "weeks", "apart", "like", "turn", "never", "hall", "pay", "place", ";", "5",
+                "1000", "?", "x", Character.isLetter(tokens[i].charAt(0)) ? tokens[i] + "x" : "xx"};
             for (String other : others) {
                 if (!mayStand(tokens, i, other)) {
                     faulty(ahead + other, ahead.length());
